@@ -301,6 +301,7 @@ public final class PromisesTest {
         due("full empties the tape", 0, x.count(4));
         same("full keeps the line", "a b c d e f g h i j", Check.text(x));
         due("full keeps the words", 10, x.count(6));
+        due("the last letters", 1, Check.line(x, "azAZ"));
         due("no words", 0, Check.line(x, "@[`{\u00c1"));
         due("five bytes", 5, x.count(5));
         due("empty line", 0, x.line());
@@ -805,7 +806,7 @@ public final class PromisesTest {
         Check.line(x, "tk");
         // take: 4 by two put in; tkae: 4 as well, so that the first told is told of.
         due("alike", 4, x.edits(0, TAKE));
-        due("the first told", 2, Check.cell(x, 2, 3));
+        due("the first told", 3, Check.cell(x, 2, 2));
     }
 
     /** Has the first proposal for a line chosen some times. */
