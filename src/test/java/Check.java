@@ -1,7 +1,14 @@
+import java.lang.reflect.InvocationTargetException;
+import java.lang.reflect.Method;
+import java.lang.reflect.Modifier;
+import java.util.Arrays;
+import java.util.Comparator;
+
 /** What the tests share: a count of wrong answers, and texts fed to a tape. */
 final class Check {
     private int wrong = 0;
     private int right = 0;
+    private String test = "";
 
     void due(String call, long want, long got) {
         if (want == got) {
@@ -10,7 +17,7 @@ final class Check {
         }
         wrong++;
         if (wrong <= 40) {
-            System.out.println(call + " answered " + got + ", due is " + want);
+            System.out.println(test + call + " answered " + got + ", due is " + want);
         }
     }
 
@@ -23,6 +30,36 @@ final class Check {
         if (wrong != 0) {
             System.exit(1);
         }
+    }
+
+    /**
+     * Runs the tests of a class, which are its static methods without parameters: each for itself,
+     * so that one that throws does not keep the others from running.
+     */
+    void runTests(Class<?> tests) {
+        Method[] methods = tests.getDeclaredMethods();
+        Arrays.sort(methods, Comparator.comparing(Method::getName));
+        int many = 0;
+        for (Method method : methods) {
+            if (Modifier.isStatic(method.getModifiers()) && method.getParameterCount() == 0 && !method.isSynthetic()) {
+                run(method);
+                many++;
+            }
+        }
+        due(tests.getName() + " has tests", 1, many > 0 ? 1 : 0);
+        System.out.println(tests.getName() + ": " + many + " tests");
+    }
+
+    private void run(Method method) {
+        test = method.getName() + ": ";
+        try {
+            method.invoke(null);
+        } catch (InvocationTargetException e) {
+            due("throws " + e.getCause() + ", which", 0, 1);
+        } catch (IllegalAccessException e) {
+            due("cannot be run, which", 0, 1);
+        }
+        test = "";
     }
 
     /** Feeds the text eight bytes at a time: the last answer of feed, or the first refusal. */
