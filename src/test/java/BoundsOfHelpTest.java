@@ -235,6 +235,12 @@ public final class BoundsOfHelpTest {
         }
         x.near('b' - 'a', 'x' - 'a');
         due("a lesser distance before one that fits", 1, x.proposal(0, 0));
+        x.tell("caxx", LINK);
+        x.setting(1, 1);
+        int[] fits = {0, 0, 1, 1, 0, 0};
+        for (int i = 0; i < fits.length; i++) {
+            due("with one more before them, fits " + i, fits[i], x.proposal(i, 2));
+        }
     }
 
     // ---- promise 17: fix
@@ -507,6 +513,22 @@ public final class BoundsOfHelpTest {
         missingIs(x, -2);
     }
 
+    static void promise19MissingByTheMostPairs() {
+        Subject x = Twins.made(Worlds::small);
+        int put = x.tell("put", VERB);
+        int from = x.tell("from", LINK);
+        x.tellRule(put, -2, WITH, from);
+        x.say("put with from door door");
+        due("the first token gives way to two others", 2, x.told(6));
+        missingIs(x, -2);
+        x.say("put lamp with from");
+        due("the first word gives way", 1, x.told(6));
+        missingIs(x, -2);
+        x.say("put from with");
+        due("one of two that cross", 1, x.told(6));
+        missingIs(x, -2, from);
+    }
+
     private static void missingIs(Subject x, int... due) {
         due("how many", due.length, x.told(5));
         for (int i = 0; i < due.length; i++) {
@@ -674,6 +696,25 @@ public final class BoundsOfHelpTest {
         x.classes(1, 127);
         x.tellRule(0, 2, 2, 2, -1);
         due("the fourth token", 0, x.verbs(1, 0));
+    }
+
+    static void promise21VerbsByTheTokensOfARuleAlone() {
+        Subject x = new Subject();
+        x.tell("cup", THING);
+        x.tell("go", VERB);
+        x.tell("put", VERB);
+        x.tell("to", LINK);
+        x.rule(1);
+        due("thing 0 and a rule without tokens", NONE, x.verbs(0, 0));
+        x.tellRule(1, 3, 3, 3, 3);
+        x.tellRule(2, -1);
+        due("four tokens, and the next rule's", 2, x.verbs(0, 0));
+        for (int i = 3; i < 39; i++) {
+            x.rule(1);
+        }
+        due("the 40th rule", 39, x.tellRule(1, 3, 3, 3, 3));
+        due("its fourth is the last of all", 2, x.verbs(0, 0));
+        due("no more", NONE, x.verbs(0, 1));
     }
 
     // ---- promise 22: edits

@@ -265,12 +265,13 @@ public final class BoundsOfLearningTest {
         x.chooseOften("take lamm", 2);
         x.say("take lamm");
         x.choose(1);
-        x.chooseOften("take lammp", 1);
+        x.chooseOften("take doorr", 1);
         due("four pairs", 4, x.count(3));
         due("learn the second of them", 2, x.learn(2));
         due("two are left", 2, x.count(3));
         due("the one before", TAKE, x.pair(0, 0));
-        due("the one behind", 5, x.pair(1, 2));
+        due("the one behind", DOOR, x.pair(1, 0));
+        due("with its letters", 5, x.pair(1, 2));
         x.say("lamm");
         due("of the word that was learned", Worlds.WORDS, x.typed(0, 2));
     }

@@ -382,6 +382,20 @@ public final class BoundsOfLineTest {
         }
     }
 
+    static void promise15ToldNothingMissingOrExtraOfTheLineBefore() {
+        Subject x = Twins.made(Worlds::small);
+        for (String text : new String[] {"the", "take foo bar", "take foo", "lamp", "take key"}) {
+            x.say("open with lamp");
+            due("rule", 1, x.told(4));
+            due("missing", 1, x.told(5));
+            due("extra", 2, x.told(6));
+            x.say(text);
+            due("no rule", NONE, x.told(4));
+            due("none missing", 0, x.told(5));
+            due("none extra", 0, x.told(6));
+        }
+    }
+
     static void promise15ToldNoNearestRuleOfAVerbWithoutRules() {
         Subject x = Twins.made(Worlds::small);
         int wait = x.tell("wait", VERB);
@@ -424,6 +438,9 @@ public final class BoundsOfLineTest {
         x.scope(KEY, true);
         x.say("open with key");
         due("one missing is less than three", 2, x.told(4));
+        int pairedFirst = x.tellRule(TAKE, Worlds.WITH);
+        x.say("take with");
+        due("a later rule, by its first token", pairedFirst, x.told(4));
     }
 
     static void promise15ToldTheNote() {
